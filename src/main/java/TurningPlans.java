@@ -56,7 +56,6 @@ public final class TurningPlans {
         passingByValue = new int[VALUES];
         askState = NO_ASK;
         forcedTable = NONE;
-        lastReadTable = NONE;
     }
 
     public int row(int table, int c0, int c1, int c2) {

@@ -17,11 +17,13 @@ public final class PromisesTest {
         promise4Join();
         promise5Ask();
         promise6Stop();
+        promise6StopAmongLatePairs();
         promise7Go();
         promise7Gain();
         promise7GainCountsTestsAndPairs();
         promise7LatePairs();
         promise7EndsAsSoonAsNothingIsLeft();
+        promise7FullTables();
         promise8Memory();
         promise8MemoryOutsideOfAnAsk();
         promise9Force();
@@ -291,6 +293,18 @@ public final class PromisesTest {
         due("6: it stays OVER", x.count(0), 2);
     }
 
+    private static void promise6StopAmongLatePairs() {
+        TurningPlans x = withRows(values(1, 1), values(1, 1, 1));
+        x.memory(0);
+        x.ask();
+        x.go(7);
+        CHECKS.due("6: before", pairsOf(x), "0-0 0-1");
+        x.stop();
+        x.ask();
+        x.go(200);
+        CHECKS.due("6: the next one gives all anew", pairsOf(x), "0-0 0-1 0-2 1-0 1-1 1-2");
+    }
+
     private static void promise7Go() {
         TurningPlans x = withRows(values(1, 2), values(2, 1, 3));
         due("7: no ASK", x.go(0), NONE);
@@ -383,6 +397,36 @@ public final class PromisesTest {
         due("7: one TABLE is empty, the other not", z.count(0), 1);
         due("7: go over one TABLE", z.go(9), 1);
         due("7: OVER with it", z.count(0), 2);
+    }
+
+    private static void promise7FullTables() {
+        TurningPlans x = withRows(likeValues(50, 7), likeValues(50, 7));
+        x.test(0, 99, 1);
+        x.test(1, 207, 1);
+        x.ask();
+        due("7: no PAIR is late", x.go(200), 100);
+        due("7: OVER without PAIRS", x.count(0), 2);
+        due("7: by the cheapest ORDER", x.fixed(0) + x.fixed(1), 50 + 50);
+        TurningPlans y = withRows(likeValues(50, 7), likeValues(50, 7));
+        y.ask();
+        due("7: all PAIRS by READING", y.go(200), 100);
+        due("7: each once", y.count(2), 2500);
+        due("7: all ROWS are kept", y.count(3), 100);
+        due("7: cost of all", y.count(1), 100 + 2500);
+        due("7: the sum of numbers", y.sum(0, 1) + y.sum(1, 1), 2 * 50 * 1225);
+        due("7: the highest PAIR", y.given(2499, 0) + y.given(2499, 1), 49 + 49);
+        y.memory(0);
+        y.ask();
+        y.go(100);
+        due("7: nothing was kept", y.count(4), 100);
+        due("7: nothing was given", y.count(2), 0);
+        for (int i = 0; i < 2500; i += 125) {
+            due("7: late PAIRS", y.go(125), 125);
+            due("7: OVER with the last", y.count(0), i + 125 == 2500 ? 2 : 1);
+        }
+        due("7: late PAIRS by ROWS of TABLE 0", y.given(149, 0), 2);
+        due("7: of one by those of TABLE 1", y.given(149, 1), 49);
+        due("7: cost of all late ones", y.count(1), 100 + 5000);
     }
 
     private static void promise8Memory() {
@@ -776,6 +820,12 @@ public final class PromisesTest {
         y.go(4);
         // TEST 3 fails all but ROW 3, which then fails TEST 0.
         due("17: of four TESTS", y.fixed(0), 4 + 4);
+        TurningPlans z = withRows(values(1, 2, 3), values());
+        z.test(0, 99, 2);
+        z.test(0, 200, 9);
+        z.ask();
+        z.go(3);
+        due("17: of TESTS that all pass", z.fixed(0), 3 * 11);
     }
 
     private static void promise18Cost() {
@@ -840,6 +890,12 @@ public final class PromisesTest {
         due("19: went over again", x.count(7), 2);
         x.go(2);
         due("19: went over as one is READ out", x.count(7), 3);
+        x.go(200);
+        due("19: TABLE 0 was READ last", x.count(0) * 10 + x.count(5), 24);
+        x.ask();
+        x.go(1);
+        due("19: another ASK begins with TABLE 1", x.count(6), 1);
+        due("19: the first ROW of another ASK is no going over", x.count(7), 0);
         TurningPlans y = withThreeTests(12);
         y.ask();
         y.order(0, 102);
