@@ -48,8 +48,10 @@ public final class TurningPlans {
     private int lateRow1;
 
     public TurningPlans() {
-        tables = new Table[] {new Table(), new Table()};
-        scans = new Scan[] {new Scan(tables[0]), new Scan(tables[1])};
+        Table table0 = new Table();
+        Table table1 = new Table();
+        tables = new Table[] {table0, table1};
+        scans = new Scan[] {new Scan(table0), new Scan(table1)};
         joinColumns = new int[TABLES];
         kept = new Memory();
         pairs = new Pairs();
