@@ -3,7 +3,10 @@ import java.util.Random;
 /** Runs of calls, always the same ones, on a new object and on the plain model beside it. */
 public final class ModelTest {
     private static final int RUNS = 3000;
+    /** An object is promised for so many calls alone. */
     private static final int CALLS = 512;
+    private static final int CALLS_TO_COMPARE_ALL = 200;
+    private static final int PAIRS_TO_COMPARE = 38;
     private static final int NONE = TurningPlans.NONE;
     private static final int[] ODD = {Integer.MIN_VALUE, -1000, -2, -1, 0, 1, 2, 3, 4, 49, 50, 51, 99, 100, 101, 200,
         201, 2500, Integer.MAX_VALUE};
@@ -38,12 +41,16 @@ public final class ModelTest {
     }
 
     private void run() {
+        boolean comparesAll = random.nextBoolean();
+        int most = comparesAll ? CALLS - CALLS_TO_COMPARE_ALL : CALLS;
         int made = fill();
-        while (made < CALLS && !checks.isWrong()) {
+        while (made < most && !checks.isWrong()) {
             makeCall(random.nextInt(100));
             made++;
         }
-        compareAll();
+        if (comparesAll) {
+            compareAll();
+        }
     }
 
     private int fill() {
@@ -169,7 +176,8 @@ public final class ModelTest {
             same("count(" + what + ")", plans.count(what), model.count(what));
         }
         for (int table = 0; table < 2; table++) {
-            for (int i = 0; i <= model.count(2); i++) {
+            int pairs = model.count(2);
+            for (int i = Math.max(0, pairs - PAIRS_TO_COMPARE); i <= pairs; i++) {
                 same("given(" + i + "," + table + ")", plans.given(i, table), model.given(i, table));
             }
             for (int row = 0; row < 50; row++) {

@@ -1,12 +1,5 @@
 /** One method for each promise: ordinary inputs, the edges that the document names, and wrong inputs. */
-public final class PromisesTest {
-    private static final int NONE = TurningPlans.NONE;
-    private static final int MIN = Integer.MIN_VALUE;
-    private static final int MAX = Integer.MAX_VALUE;
-    private static final int[] NO_TABLES = {-2, -1, 2, 3, MIN, MAX};
-    private static final int[] NO_COLUMNS = {-1, 3, MIN, MAX};
-    private static final int[] NO_VALUES = {-1, 100, MIN, MAX};
-
+public final class PromisesTest extends Plans {
     private static final Checks CHECKS = new Checks("PromisesTest");
 
     public static void main(String[] args) {
@@ -51,60 +44,6 @@ public final class PromisesTest {
 
     private static void due(String call, boolean got, boolean want) {
         CHECKS.due(call, got, want);
-    }
-
-    /** A new object whose TABLES have a ROW for each value, with it in COLUMN 0, and its number in COLUMN 1. */
-    private static TurningPlans withRows(int[] values0, int[] values1) {
-        TurningPlans x = new TurningPlans();
-        for (int i = 0; i < values0.length; i++) {
-            x.row(0, values0[i], i, 0);
-        }
-        for (int i = 0; i < values1.length; i++) {
-            x.row(1, values1[i], i, 0);
-        }
-        return x;
-    }
-
-    private static int[] values(int... values) {
-        return values;
-    }
-
-    private static int[] likeValues(int howMany, int value) {
-        int[] values = new int[howMany];
-        java.util.Arrays.fill(values, value);
-        return values;
-    }
-
-    private static String pairsOf(TurningPlans x) {
-        StringBuilder text = new StringBuilder();
-        for (int i = 0; x.given(i, 0) != NONE; i++) {
-            text.append(i == 0 ? "" : " ").append(x.given(i, 0)).append('-').append(x.given(i, 1));
-        }
-        return text.toString();
-    }
-
-    private static String orderOf(TurningPlans x, int table) {
-        StringBuilder text = new StringBuilder();
-        for (int k = 0; x.ordered(table, k) != NONE; k++) {
-            text.append(x.ordered(table, k));
-        }
-        return text.toString();
-    }
-
-    private static String countsOf(TurningPlans x) {
-        StringBuilder text = new StringBuilder();
-        for (int what = 0; what <= 9; what++) {
-            text.append(what == 0 ? "" : " ").append(x.count(what));
-        }
-        return text.toString();
-    }
-
-    private static String placesOf(TurningPlans x, int table) {
-        StringBuilder text = new StringBuilder();
-        for (int row = 0; x.where(table, row) != NONE; row++) {
-            text.append(x.where(table, row));
-        }
-        return text.toString();
     }
 
     private static void promise1NewObject() {
