@@ -13,6 +13,7 @@ public final class TurningPlans {
     private static final int VALUES = 100;
     private static final int MOST_TESTS = 4;
     private static final int MOST_PRICE = 50;
+    private static final int DEARER_THAN_ALL_TESTS = MOST_ROWS * MOST_TESTS * MOST_PRICE + 1;
     private static final int MOST_HELD = TABLES * MOST_ROWS;
     private static final int MOST_PAIRS = MOST_ROWS * MOST_ROWS;
     private static final int MOST_STEPS = 200;
@@ -564,7 +565,7 @@ public final class TurningPlans {
         int cheapestFixedOrder() {
             findFailedTests();
             int sets = 1 << testCount;
-            Arrays.fill(leastCost, Integer.MAX_VALUE);
+            Arrays.fill(leastCost, DEARER_THAN_ALL_TESTS);
             leastCost[0] = 0;
             for (int set = 0; set < sets - 1; set++) {
                 int reaching = rowsThatPass(set);

@@ -1,4 +1,6 @@
 import java.io.IOException;
+import java.lang.reflect.Field;
+import java.lang.reflect.Modifier;
 import java.nio.file.Files;
 import java.nio.file.Path;
 import java.util.List;
@@ -7,14 +9,18 @@ import java.util.TreeSet;
 import java.util.regex.Matcher;
 import java.util.regex.Pattern;
 
-/** The rules of LANGUAGE.md that can be seen from the text of the program. */
+/** The rules of LANGUAGE.md that can be seen from the text of the program or from its classes. */
 public final class LanguageTest {
     private static final Path SOURCE = Path.of("src/main/java/TurningPlans.java");
     private static final int LONGEST_METHOD = 60;
     private static final int MOST_PARAMETERS = 7;
     private static final int MOST_CLASSES = 12;
+    private static final int MOST_FIELDS = 20;
     private static final List<String> RULED_OUT = List.of("throw", "throws", "try", "catch", "synchronized", "assert",
             "->", "::", "Exact", "Thread", "Random", "System.currentTimeMillis", "System.nanoTime", "package");
+    /** What the program needs of the library that rule 4 lists. */
+    private static final Set<String> LIBRARY = Set.of("Arrays.fill", "Math.min");
+    private static final Pattern LIBRARY_USE = Pattern.compile("(?<![.\\w])([A-Z]\\w*[a-z]\\w*)\\.(\\w+)");
     private static final Pattern METHOD =
             Pattern.compile("^ +(public |private |)(static |)(int|boolean|void) (\\w+)\\(([^)]*)\\) \\{$");
 
@@ -23,6 +29,11 @@ public final class LanguageTest {
         List<String> lines = Files.readAllLines(SOURCE);
         checkWords(checks, lines);
         checkMethods(checks, lines);
+        checkClass(checks, TurningPlans.class);
+        for (Class<?> inside : TurningPlans.class.getDeclaredClasses()) {
+            checks.due(inside + " is static", Modifier.isStatic(inside.getModifiers()), true);
+            checkClass(checks, inside);
+        }
         checks.end();
     }
 
@@ -36,6 +47,10 @@ public final class LanguageTest {
         Matcher imports = Pattern.compile("^import (.*);$", Pattern.MULTILINE).matcher(code);
         while (imports.find()) {
             checks.due("import " + imports.group(1), imports.group(1).equals("java.util.Arrays"), true);
+        }
+        Matcher uses = LIBRARY_USE.matcher(code.replaceAll("(?m)^import .*$", ""));
+        while (uses.find()) {
+            checks.due("uses " + uses.group(), LIBRARY.contains(uses.group()), true);
         }
         int classes = code.split("\\bclass ").length - 1;
         checks.due("classes", classes <= MOST_CLASSES, true);
@@ -56,6 +71,19 @@ public final class LanguageTest {
         checks.due("public methods", publicNames.size(), 18);
         otherNames.retainAll(publicNames);
         checks.due("names of public methods used again", otherNames.toString(), "[]");
+    }
+
+    private static void checkClass(Checks checks, Class<?> type) {
+        int fields = 0;
+        for (Field field : type.getDeclaredFields()) {
+            if (Modifier.isStatic(field.getModifiers())) {
+                checks.due(field + " is final", Modifier.isFinal(field.getModifiers()), true);
+                checks.due(field + " is a number", field.getType() == int.class, true);
+            } else {
+                fields++;
+            }
+        }
+        checks.due("fields of " + type, fields <= MOST_FIELDS, true);
     }
 
     private static int lengthFrom(List<String> lines, int start) {
